@@ -313,15 +313,15 @@ public final class IntervalTape {
         }
 
         static long significand(long size) {
-            return scale(size) == 0 ? size : (size & FRACTION) | (FRACTION + 1);
+            return size <= FRACTION ? size : (size & FRACTION) | (FRACTION + 1);
         }
 
         static int exponent(long size) {
-            return Math.max(scale(size), 1) - 1075;
+            return size <= FRACTION ? -1074 : (int) (size >>> 52) - 1075;
         }
 
         static long cut(long size) {
-            int scale = scale(size);
+            int scale = (int) (size >>> 52);
             if (scale < 1023) return 0;
             return scale > 1074 ? size : size & -(1L << (1075 - scale));
         }
@@ -398,7 +398,7 @@ public final class IntervalTape {
         }
 
         void copy(Big other) {
-            System.arraycopy(other.words, 0, words, 0, other.size);
+            for (int i = 0; i < other.size; i++) words[i] = other.words[i];
             size = other.size;
         }
 
@@ -530,9 +530,12 @@ public final class IntervalTape {
 
         void becomeRank(long rank) {
             long size = Math.abs(rank);
-            becomeWhole(Long.signum(rank), Floats.exponent(size));
+            sign = Long.signum(rank);
+            exponent = Floats.exponent(size);
             infinite = size == INFINITY;
+            root = false;
             top.become(Floats.significand(size));
+            bottom.become(1);
         }
 
         void becomeInfinite(int side) {
@@ -626,7 +629,8 @@ public final class IntervalTape {
         int order(Real a, Real b) {
             if (a.sign != b.sign || a.sign == 0) return Integer.compare(a.sign, b.sign);
             if (a.infinite || b.infinite) return a.infinite == b.infinite ? 0 : a.infinite ? a.sign : -a.sign;
-            int gap = a.level() - b.level(), shift = a.exponent - b.exponent;
+            int shift = a.exponent - b.exponent;
+            int gap = a.top.bits() - a.bottom.bits() - b.top.bits() + b.bottom.bits() + shift;
             // Only numbers of nearly the same size are multiplied out: all others would need more room.
             if (gap > 1 || gap < -1) return gap > 0 ? a.sign : -a.sign;
             left.becomeProduct(a.top, b.bottom);
@@ -688,15 +692,13 @@ public final class IntervalTape {
             return Math.min(rank, GREATEST);
         }
 
-        // How often 2 ^ unit goes into the value's size, which is below 2 ^ 63 times, and in inexact whether something is left.
+        // How often 2 ^ unit goes into the value's size (below 2 ^ 63 times), and in inexact whether a rest is left.
         long whole(Real value, int unit) {
             int shift = value.exponent - unit;
-            if (!value.bottom.isUnit()) return divided(value, shift);
-            inexact = shift < 0 && value.top.anyBelow(-shift);
-            return shift < 0 ? value.top.from(-shift) : value.top.from(0) << Math.min(shift, 63);
-        }
-
-        private long divided(Real value, int shift) {
+            if (value.bottom.isUnit()) {
+                inexact = shift < 0 && value.top.anyBelow(-shift);
+                return shift < 0 ? value.top.from(-shift) : value.top.from(0) << Math.min(shift, 63);
+            }
             left.copy(value.top);
             left.shiftLeft(shift);
             right.copy(value.bottom);
@@ -865,8 +867,12 @@ public final class IntervalTape {
             boolean turned = y.high <= 0;
             long from = turned ? -x.high : x.low, to = turned ? -x.low : x.high;
             long near = turned ? -y.high : y.low, far = turned ? -y.low : y.high;
-            quotient(low, from, from < 0 ? near : far);
-            quotient(high, to, to < 0 ? far : near);
+            left.becomeRank(from);
+            right.becomeRank(from < 0 ? near : far);
+            low.becomeQuotient(left, right);
+            left.becomeRank(to);
+            right.becomeRank(to < 0 ? far : near);
+            high.becomeQuotient(left, right);
         }
 
         private void raise(Cell x, int n) {
@@ -1054,6 +1060,7 @@ public final class IntervalTape {
             fine = bytes != null;
             open = false;
             ends.empty = false;
+            lower();
             skipBlanks();
             if (take('[')) readBrackets();
             else readUncertain();
@@ -1065,14 +1072,20 @@ public final class IntervalTape {
             return exact.order(ends.low, ends.high) <= 0;
         }
 
+        // The text is the cell's own copy, which no one asks for as it came.
+        private void lower() {
+            int length = text == null ? 0 : text.length;
+            for (int i = 0; i < length; i++) {
+                if (text[i] >= 'A' && text[i] <= 'Z') text[i] += 32;
+            }
+        }
+
         private int peek() {
-            if (text == null || at >= text.length) return -1;
-            int c = text[at] & 255;
-            return c >= 'A' && c <= 'Z' ? c + 32 : c;
+            return text == null || at >= text.length ? -1 : text[at] & 255;
         }
 
         private boolean take(int c) {
-            if (peek() != c) return false;
+            if (text == null || at >= text.length || text[at] != c) return false;
             at++;
             return true;
         }
@@ -1108,28 +1121,22 @@ public final class IntervalTape {
             } else if (peek() == ']' || takeWord("empty", 0, 5)) {
                 ends.empty = true;
             } else {
-                readEnds();
+                boolean infinite = peek() == ',' || takeInfinity("-inf", 4);
+                if (infinite) ends.low.becomeInfinite(-1);
+                else readNumber(ends.low);
+                open = infinite;
+                skipBlanks();
+                boolean pair = take(',');
+                skipBlanks();
+                infinite = pair && (peek() == ']' || takeInfinity("inf", 3) || takeInfinity("+inf", 4));
+                if (infinite) ends.high.becomeInfinite(1);
+                else if (pair) readNumber(ends.high);
+                else ends.high.become(ends.low);
+                fine &= pair || !open;
+                open |= infinite;
             }
             skipBlanks();
             fine &= take(']');
-        }
-
-        private void readEnds() {
-            boolean infinite = peek() == ',' || takeInfinity("-inf", 4);
-            if (infinite) ends.low.becomeInfinite(-1);
-            else readNumber(ends.low);
-            open = infinite;
-            skipBlanks();
-            if (!take(',')) {
-                fine &= !infinite;
-                ends.high.become(ends.low);
-                return;
-            }
-            skipBlanks();
-            infinite = peek() == ']' || takeInfinity("inf", 3) || takeInfinity("+inf", 4);
-            if (infinite) ends.high.becomeInfinite(1);
-            else readNumber(ends.high);
-            open |= infinite;
         }
 
         private boolean takeInfinity(String letters, int length) {
@@ -1249,9 +1256,19 @@ public final class IntervalTape {
                 putText("[nai]", 0, 5);
                 return size;
             }
-            if (cell.isEmpty()) putText("[empty]", 0, 7);
-            else if (cell.isSuch(1)) putText("[entire]", 0, 8);
-            else putEnds(cell, digits);
+            if (cell.isEmpty()) {
+                putText("[empty]", 0, 7);
+            } else if (cell.isSuch(1)) {
+                putText("[entire]", 0, 8);
+            } else {
+                put('[');
+                putEnd(cell.low, digits, cell.low < 0);
+                int between = size;
+                put(',');
+                putEnd(cell.high, digits, cell.high > 0);
+                if (isTwice(between)) size = between;
+                put(']');
+            }
             put('_');
             putText(MARKS, 3 * cell.mark - 3, 3 * cell.mark);
             return size;
@@ -1275,22 +1292,11 @@ public final class IntervalTape {
             for (int i = from; i < to; i++) put(letters.charAt(i));
         }
 
-        private void putEnds(Cell cell, int digits) {
-            put('[');
-            int from = size;
-            putEnd(cell.low, digits, cell.low < 0);
-            int between = size;
-            put(',');
-            putEnd(cell.high, digits, cell.high > 0);
-            if (isTwice(from, between)) size = between;
-            put(']');
-        }
-
-        private boolean isTwice(int from, int between) {
-            int length = between - from;
-            if (size - between - 1 != length) return false;
-            for (int i = 0; i < length; i++) {
-                if (out[from + i] != out[between + 1 + i]) return false;
+        // Whether what stands behind the bracket stands behind the comma again.
+        private boolean isTwice(int comma) {
+            if (size - comma != comma) return false;
+            for (int i = 1; i < comma; i++) {
+                if (out[i] != out[comma + i]) return false;
             }
             return true;
         }
