@@ -255,6 +255,7 @@ public final class IntervalTape {
             return low > high;
         }
 
+        // True of the empty one, too.
         boolean isBounded() {
             return low > -INFINITY && high < INFINITY;
         }
@@ -281,10 +282,19 @@ public final class IntervalTape {
         }
 
         boolean isSuch(int what) {
-            if (what == 2 || mark == ILL) return what == 2 && mark == ILL;
-            if (what == 0 || isEmpty()) return what == 0 && isEmpty();
-            if (what == 1) return low == -INFINITY && high == INFINITY;
-            return what == 3 ? isBounded() : low == high;
+            if (mark == ILL) return what == 2;
+            switch (what) {
+                case 0:
+                    return isEmpty();
+                case 1:
+                    return low == -INFINITY && high == INFINITY;
+                case 3:
+                    return !isEmpty() && isBounded();
+                case 4:
+                    return low == high;
+                default:
+                    return false;
+            }
         }
     }
 
@@ -447,7 +457,8 @@ public final class IntervalTape {
         }
 
         void becomeProduct(Big a, Big b) {
-            Arrays.fill(words, 0, Math.min(a.size + b.size, ROOM), 0);
+            int length = Math.min(a.size + b.size, ROOM);
+            for (int i = 0; i < length; i++) words[i] = 0;
             for (int i = 0; i < a.size; i++) {
                 long carry = 0, factor = a.words[i] & LOW_HALF;
                 int most = Math.min(b.size, ROOM - i);
@@ -458,7 +469,7 @@ public final class IntervalTape {
                 }
                 if (i + most < ROOM) words[i + most] = (int) carry;
             }
-            size = Math.min(a.size + b.size, ROOM);
+            size = length;
             trim();
         }
 
@@ -478,7 +489,7 @@ public final class IntervalTape {
             for (int i = size; i >= 0; i--) {
                 words[i + whole] = (int) ((digit(i) << rest) | ((digit(i - 1) << rest) >>> 32));
             }
-            Arrays.fill(words, 0, whole, 0);
+            for (int i = 0; i < whole; i++) words[i] = 0;
             size += whole + 1;
             trim();
         }
@@ -558,7 +569,7 @@ public final class IntervalTape {
             top.becomeProduct(a.top, b.top);
         }
 
-        // What the quotient of a and of numbers near b comes near to, where b is not below 0 if it is 0.
+        // What the quotient comes near to, if b is an end that is infinite, or 0 with the numbers above it.
         void becomeQuotient(Real a, Real b) {
             boolean beyond = a.infinite || b.sign == 0;
             becomeWhole(b.infinite ? 0 : b.sign < 0 ? -a.sign : a.sign, a.exponent - b.exponent);
@@ -589,7 +600,12 @@ public final class IntervalTape {
             becomeWhole(top.size == 0 ? 0 : side, least);
         }
 
+        // The base must not be 0 for n below 0.
         void becomePower(Real base, int n) {
+            if (n > 0 && base.sign == 0 || n < 0 && base.infinite) {
+                becomeRank(0);
+                return;
+            }
             int times = Math.abs(n);
             top.become(1);
             for (int i = 0; i < times; i++) {
@@ -597,12 +613,11 @@ public final class IntervalTape {
                 top.copy(bottom);
             }
             becomeWhole((n & 1) == 0 ? 1 : base.sign, base.exponent * n);
+            infinite = n > 0 && base.infinite;
             if (n < 0) {
                 bottom.copy(top);
                 top.become(1);
             }
-            if (n > 0 && base.sign == 0 || n < 0 && base.infinite) becomeRank(0);
-            if (n > 0 && base.infinite || n < 0 && base.sign == 0) infinite = true;
         }
 
         void timesTen(int n) {
@@ -614,7 +629,7 @@ public final class IntervalTape {
             exponent += n;
         }
 
-        // The size lies between 2 ^ (level - 1) and 2 ^ (level + 1), and below the latter.
+        // The size is above 2 ^ (level - 1) and below 2 ^ (level + 1).
         int level() {
             return top.bits() - bottom.bits() + exponent;
         }
@@ -885,10 +900,10 @@ public final class IntervalTape {
             empty = n < 0 && x.isZero();
             left.becomeRank(from);
             right.becomeRank(to);
-            low.becomePower(n < 0 ? right : left, n);
-            high.becomePower(n < 0 ? left : right, n);
             if (n < 0 && to == 0) low.becomeInfinite(-1);
+            else low.becomePower(n < 0 ? right : left, n);
             if (n < 0 && from == 0) high.becomeInfinite(1);
+            else high.becomePower(n < 0 ? left : right, n);
         }
     }
 
@@ -954,7 +969,7 @@ public final class IntervalTape {
             made.become(exact.down(ends.low), exact.up(ends.high));
         }
 
-        // Zero is in y here, which so has no z but near the end of x that is nearest to 0.
+        // Zero is in y: each part goes on to infinity, and its other end comes from x's end that is nearest to 0.
         private void part(Cell made, Cell x, Cell y, boolean first) {
             if (x.hasZero()) {
                 if (first) made.become(-INFINITY, INFINITY);
