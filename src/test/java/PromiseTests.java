@@ -234,6 +234,7 @@ public final class PromiseTests {
             "[1e+]", "[1e1000]", "[1e0001]", "[1e 5]", "[1.2.3]", "[--1]", "[+-1]", "[- 1]", "[1_com]", "[0x1]", "[0x1.8]", "[0xp1]",
             "[0x.p1]", "[0x1p]", "[0x1p10000]", "[0x1p00001]", "[0x1g]", "[0x1.1.1p0]", "[x1p1]", "[1/0]", "[1/000]", "[1/]", "[/3]",
             "[1./3]", "[1/3.]", "[1/3e1]", "[1 /3]", "[1/ 3]", "[1/-3]", "[1/3/5]", "[0x1/3]", "[em pty]", "[emptyy]", "[entire,]",
+            "[1,2_com", "[.,2]", "[-,2]", "[1e,2]", "[1/0,2]", "[0x1,2]", "[1a]", "[a]", "[1/a]", "[1ea]", "[0x1pa]",
             "[1,2]\0", "\0[1,2]", "[1\n,2]", "[1,2]\u00a0", "[\u00b1]", "[1;2]", "[,,]", "[1,,2]"};
         for (String s : texts) dueIllText(s);
     }
@@ -275,6 +276,14 @@ public final class PromiseTests {
         due("first", read(t, "[1,2]"), 1);
         due("the tape is used up", t.literal(), 2);
         dueIll(t, "no bytes again", 2);
+        read(t, "[empty]");
+        dueCell(t, "after an empty one", read(t, "[1,2]"), 1, 2, COM);
+        t.one(3, cell(t, -2, -1));
+        dueCell(t, "after a result that is empty", read(t, "3?1"), 2, 4, COM);
+        read(t, "[entire]");
+        dueCell(t, "after an unbounded one", read(t, "[1,2]_com"), 1, 2, COM);
+        read(t, "[1,2");
+        dueCell(t, "after an ill one", read(t, "[1,2]_com"), 1, 2, COM);
         StringBuilder zeros = new StringBuilder("[");
         for (int i = 0; i < 390; i++) zeros.append('9');
         dueText(zeros + "e-390]", Math.nextDown(1.0), 1, COM);
@@ -419,6 +428,12 @@ public final class PromiseTests {
         dueCell(t, "+ rounded", t.two(0, cell(t, 0.1, 0.1), cell(t, 0.2, 0.2)), 0.3, Math.nextUp(0.3), COM);
         dueCell(t, "+ beyond", t.two(0, most, most), Double.MAX_VALUE, inf, DAC);
         dueCell(t, "+ a little", t.two(0, most, t.cell(LEAST, LEAST)), Double.MAX_VALUE, inf, DAC);
+        double ones = 9007199254740991.0, far = ones * 8796093022208.0;
+        dueCell(t, "+ to one more bit", t.two(0, cell(t, far, far), cell(t, ones, ones)),
+            0x1p96 + 511 * 0x1p44, 0x1p96 + 512 * 0x1p44, COM);
+        int subnormal = t.cell(0x000FFFFFFFFFFFFFL, 0x000FFFFFFFFFFFFFL), least = t.cell(LEAST, LEAST);
+        dueCell(t, "+ to the least of full width", t.two(0, subnormal, least), Double.MIN_NORMAL, Double.MIN_NORMAL, COM);
+        dueCell(t, "+ below it", t.two(0, subnormal, zero), Math.nextDown(Double.MIN_NORMAL), Math.nextDown(Double.MIN_NORMAL), COM);
         dueCell(t, "-", t.two(1, a, b), -3, 5, COM);
         dueCell(t, "*", t.two(2, a, b), -6, 8, COM);
         dueCell(t, "0 * entire", t.two(2, zero, entire(t)), 0, 0, DAC);
@@ -509,6 +524,8 @@ public final class PromiseTests {
         dueParts(t, "y just 0", above, zero, null, null);
         dueParts(t, "entire y", above, entire(t), new double[] {-inf, 0}, new double[] {0, inf});
         dueParts(t, "unbounded x", cell(t, 3, inf), cell(t, -3, inf), new double[] {-inf, -1}, new double[] {0, inf});
+        dueParts(t, "y as narrow as can be", t.cell(LEAST, LEAST), cell(t, -Double.MIN_VALUE, Double.MIN_VALUE),
+            new double[] {-inf, -1}, new double[] {1, inf});
         dueParts(t, "rounded", cell(t, 1, 1), cell(t, -3, 3), new double[] {-inf, -1.0 / 3}, new double[] {1.0 / 3, inf});
     }
 
@@ -854,8 +871,8 @@ public final class PromiseTests {
         due("two wrong", t.astray(), 2);
         t.clear();
         due("after clear()", t.astray(), 0);
-        t.one(3, cell(t, 2, 3));
-        due("new cells", t.astray(), 0);
+        shift(t, t.one(3, cell(t, 2, 3)), "low", 1);
+        due("a wrong one among new cells", t.astray(), 1);
     }
 
     public static void main(String[] args) throws Exception {
