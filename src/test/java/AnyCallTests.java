@@ -13,7 +13,7 @@ public final class AnyCallTests {
         return (int) Math.floorMod((seed >>> 17) ^ (seed >>> 41), (long) n);
     }
 
-    private static int any(IntervalTape t) {
+    private static int any(Tape t) {
         return below(4) > 0 && t.count() > 0 ? below(t.count()) : NUMBERS[below(NUMBERS.length)];
     }
 
@@ -31,7 +31,7 @@ public final class AnyCallTests {
         return bytes;
     }
 
-    private static long call(IntervalTape t) {
+    private static long call(Tape t) {
         switch (below(24)) {
             case 0: case 1: return t.feed(four(), four(), four(), four(), four());
             case 2: return t.end(small(21));
@@ -55,25 +55,33 @@ public final class AnyCallTests {
         }
     }
 
+    private static void fail(String words) {
+        System.out.println(words);
+        System.exit(1);
+    }
+
+    /** A call asks count() up to six times for its arguments; what is answered behind the 512th call is free. */
     private static long run(int round) {
-        IntervalTape t = new IntervalTape();
+        Tape t = new Tape();
         seed = round;
         long all = 0;
-        for (int i = 0; i < 512; i++) all = all * 31 + call(t);
+        while (t.calls() < 505) all = all * 31 + call(t);
         int astray = t.astray();
-        if (astray == 0) return all;
-        System.out.println("run " + round + ": astray() answered " + astray + ", due is 0");
-        System.exit(1);
-        return 0;
+        if (astray != 0) fail("run " + round + ": astray() answered " + astray + ", due is 0");
+        return all;
+    }
+
+    private static void runOn(int round) {
+        Tape t = Tape.beyondPromised();
+        seed = round;
+        while (t.calls() < 2000) call(t);
     }
 
     public static void main(String[] args) {
         int rounds = args.length > 0 ? Integer.parseInt(args[0]) : 300;
         for (int round = 0; round < rounds; round++) {
-            if (run(round) != run(round)) {
-                System.out.println("run " + round + " gave other answers when it was made again");
-                System.exit(1);
-            }
+            if (run(round) != run(round)) fail("run " + round + " gave other answers when it was made again");
+            runOn(round);
         }
         System.out.println(rounds + " runs of any calls ended");
     }

@@ -202,7 +202,7 @@ public final class ArithmeticOracle {
         return d == 0 ? 0 : Double.doubleToLongBits(d);
     }
 
-    private static int someCell(IntervalTape t) {
+    private static int someCell(Tape t) {
         int kind = below(14);
         double a = someFloat(), b = kind < 3 ? a : someFloat();
         double low = Math.min(a, b), high = Math.max(a, b);
@@ -219,7 +219,7 @@ public final class ArithmeticOracle {
         return below(4) == 0 ? t.mark(made, 1 + below(4)) : made;
     }
 
-    private static Set setOf(IntervalTape t, int c) {
+    private static Set setOf(Tape t, int c) {
         if (t.is(c, 0) == 1) return null;
         return new Set(Q.of(Double.longBitsToDouble(t.low(c))), Q.of(Double.longBitsToDouble(t.high(c))));
     }
@@ -228,7 +228,7 @@ public final class ArithmeticOracle {
         return bits < 0 ? -(bits & Long.MAX_VALUE) : bits;
     }
 
-    private static void due(IntervalTape t, String what, int made, long low, long high, int mark) {
+    private static void due(Tape t, String what, int made, long low, long high, int mark) {
         seen++;
         if (rank(t.low(made)) == low && rank(t.high(made)) == high && t.markOf(made) == mark) return;
         wrong++;
@@ -236,7 +236,7 @@ public final class ArithmeticOracle {
             + " mark " + t.markOf(made) + ", due is " + value(low) + " .. " + value(high) + " mark " + mark);
     }
 
-    private static String tell(IntervalTape t, int... cs) {
+    private static String tell(Tape t, int... cs) {
         StringBuilder b = new StringBuilder();
         for (int c : cs) {
             b.append(" [").append(Double.longBitsToDouble(t.low(c))).append(", ");
@@ -254,7 +254,7 @@ public final class ArithmeticOracle {
     }
 
     /** The mark of a result without steps, by whether it is defined all over the box. */
-    private static int markOf(IntervalTape t, Set result, boolean defined, long low, long high, int... cs) {
+    private static int markOf(Tape t, Set result, boolean defined, long low, long high, int... cs) {
         int mark = 4;
         for (int c : cs) {
             mark = Math.min(mark, t.markOf(c));
@@ -266,7 +266,7 @@ public final class ArithmeticOracle {
         return low == -INF || high == INF ? Math.min(mark, 3) : mark;
     }
 
-    private static void dueSet(IntervalTape t, String what, int made, Set result, boolean defined, int... cs) {
+    private static void dueSet(Tape t, String what, int made, Set result, boolean defined, int... cs) {
         long low = result == null ? INF : down(result.low), high = result == null ? -INF : up(result.high);
         due(t, what + tell(t, cs), made, low, high, markOf(t, result, defined, low, high, cs));
     }
@@ -280,11 +280,11 @@ public final class ArithmeticOracle {
     /** Whether a step has another value as near as one likes. */
     private static boolean jumps(int operation, double d) {
         if (operation == 5) return d == 0;
-        if (operation == 9) return Math.abs(d - Math.floor(d)) == 0.5;
+        if (operation == 9) return Math.abs(d % 1) == 0.5;
         return d == Math.rint(d) && (operation != 8 || d != 0);
     }
 
-    private static void dueStep(IntervalTape t, int operation, int c) {
+    private static void dueStep(Tape t, int operation, int c) {
         int made = t.one(operation, c);
         String what = "one(" + operation + ")" + tell(t, c);
         if (t.is(c, 0) == 1) {
@@ -297,7 +297,7 @@ public final class ArithmeticOracle {
         due(t, what, made, rank(bits(low)), rank(bits(high)), Math.min(own, t.markOf(c)));
     }
 
-    private static void dueRoot(IntervalTape t, int c) {
+    private static void dueRoot(Tape t, int c) {
         int made = t.one(3, c);
         Set s = setOf(t, c), in = meet(s, Q.ZERO, Q.PLUS);
         boolean defined = s != null && s.low.signum() >= 0;
@@ -316,7 +316,7 @@ public final class ArithmeticOracle {
         return new Set(a.low.compareTo(b.low) < 0 ? a.low : b.low, a.high.compareTo(b.high) < 0 ? a.high : b.high);
     }
 
-    private static void dueOnes(IntervalTape t, int c) {
+    private static void dueOnes(Tape t, int c) {
         Set s = setOf(t, c);
         dueSet(t, "-", t.one(0, c), negate(s), true, c);
         dueSet(t, "1/", t.one(1, c), turned(s), s != null && !hasZero(s), c);
@@ -326,7 +326,7 @@ public final class ArithmeticOracle {
         for (int operation = 5; operation <= 9; operation++) dueStep(t, operation, c);
     }
 
-    private static void dueTwos(IntervalTape t, int c, int d) {
+    private static void dueTwos(Tape t, int c, int d) {
         Set a = setOf(t, c), b = setOf(t, d);
         dueSet(t, "+", t.two(0, c, d), plus(a, b), true, c, d);
         dueSet(t, "-", t.two(1, c, d), plus(a, negate(b)), true, c, d);
@@ -337,7 +337,7 @@ public final class ArithmeticOracle {
         dueSets(t, c, d, a, b);
     }
 
-    private static void dueTrivial(IntervalTape t, String what, int made, Set result, int c, int d) {
+    private static void dueTrivial(Tape t, String what, int made, Set result, int c, int d) {
         long low = result == null ? INF : down(result.low), high = result == null ? -INF : up(result.high);
         due(t, what + tell(t, c, d), made, low, high, 1);
     }
@@ -351,7 +351,7 @@ public final class ArithmeticOracle {
         return new Set(a.low.plus(b.low.negate()), a.high.plus(b.high.negate()));
     }
 
-    private static void dueSets(IntervalTape t, int c, int d, Set a, Set b) {
+    private static void dueSets(Tape t, int c, int d, Set a, Set b) {
         dueTrivial(t, "meet", t.two(6, c, d), b == null ? null : meet(a, b.low, b.high), c, d);
         dueTrivial(t, "hull", t.two(7, c, d), hull(a, b), c, d);
         dueTrivial(t, "cancel", t.two(8, c, d), cancel(a, b), c, d);
@@ -378,7 +378,7 @@ public final class ArithmeticOracle {
 
     private static void round(int rounds) {
         for (int i = 0; i < rounds; i++) {
-            IntervalTape t = new IntervalTape();
+            Tape t = new Tape();
             int c = someCell(t), d = someCell(t), e = someCell(t);
             dueOnes(t, c);
             dueTwos(t, c, d);

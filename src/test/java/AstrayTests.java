@@ -153,8 +153,15 @@ public final class AstrayTests extends Checks {
         due("a right one", t.astray(), 2);
         due("clear()", t.clear(), 4);
         due("after clear()", t.astray(), 0);
+        int first = read(t, "[0.1]");
+        due("the first new cell", first, 0);
+        shift(t, first, "low", 1);
         shift(t, t.one(3, cell(t, 2, 3)), "low", 1);
-        due("a wrong one among new cells", t.astray(), 1);
+        due("wrong ones among new cells", t.astray(), 2);
+        Tape u = new Tape();
+        int[] made = {read(u, "[0.1]"), read(u, "3?1"), u.one(3, 1), read(u, "[1/3,]"), u.power(1, 5), read(u, "[entire]")};
+        shift(u, made[0], "high", -1);
+        due("wrong, with others behind it", u.astray(), 1);
     }
 
     public static void main(String[] args) throws ReflectiveOperationException {

@@ -111,6 +111,43 @@ public final class CallTests extends Checks {
         }
     }
 
+    private static void dueKept(String what, ToLongFunction<Tape> call) {
+        Tape t = busy();
+        String before = cells(t);
+        call.applyAsLong(t);
+        due("cells after " + what, cells(t).substring(0, before.length()), before);
+        due("end() after " + what, t.end(6), 9);
+        due("out after " + what, out(t, 64), "[1.00e0,2.00e0]_com" + "\0".repeat(45));
+        dueCell(t, "text after " + what, t.literal(), 3, 4, DEF);
+    }
+
+    private static void callsThatMakeAndAsk() {
+        sentence("what a call is not told to change stays: cells, tape, what end() may do, and out");
+        for (int cell = 0; cell < 4; cell++) {
+            int c = cell;
+            for (int k = 0; k < 12; k++) {
+                int what = k;
+                if (what < 10) dueKept("one " + what, t -> t.one(what, c));
+                dueKept("two " + what, t -> t.two(what, c, 0));
+                if (what < 5) dueKept("number " + what, t -> t.number(c, what));
+                if (what < 5) dueKept("is " + what, t -> t.is(c, what));
+                if (what < 8) dueKept("compare " + what, t -> t.compare(0, c, what));
+            }
+            dueKept("mark", t -> t.mark(c, 2));
+            dueKept("fused", t -> t.fused(c, 0, 0));
+            dueKept("power", t -> t.power(c, -3));
+            dueKept("low", t -> t.low(c));
+            dueKept("high", t -> t.high(c));
+            dueKept("markOf", t -> t.markOf(c));
+            dueKept("has", t -> t.has(c, 0));
+        }
+        dueKept("cell", t -> t.cell(0, 0));
+        dueKept("count", t -> t.count());
+        dueKept("astray", t -> t.astray());
+        dueKept("word", t -> t.word(0));
+        dueKept("write", t -> t.write(0, 18) + t.write(0, 3));
+    }
+
     private static Tape full() {
         Tape t = Tape.beyondPromised();
         while (t.count() < MOST_CELLS - 1) t.cell(bits(1), bits(2));
@@ -127,6 +164,8 @@ public final class CallTests extends Checks {
         sentence("CELLS, 3000 at most: FULL");
         Tape t = full();
         due("the last cell", t.cell(bits(5), bits(6)), MOST_CELLS - 1);
+        due("write", t.write(0, 1), 13);
+        due("feed", feed(t, "[8] and more", 0), 20);
         dueFull(t, "cell", t.cell(0, 0));
         dueFull(t, "cell that would be ill", t.cell(NAN, NAN));
         dueFull(t, "mark", t.mark(0, 1));
@@ -135,9 +174,12 @@ public final class CallTests extends Checks {
         dueFull(t, "two of sets", t.two(11, 0, MOST_CELLS - 1));
         dueFull(t, "fused", t.fused(0, 1, MOST_CELLS - 1));
         dueFull(t, "power", t.power(0, -40));
-        dueFull(t, "literal", t.literal());
         dueCell(t, "the last cell", MOST_CELLS - 1, 5, 6, COM);
         due("no cell behind it", t.markOf(MOST_CELLS), BAD);
+        due("astray()", t.astray(), 0);
+        due("the out", out(t, 64), "[1e0,2e0]_com" + "\0".repeat(51));
+        due("the tape", t.end(3), 3);
+        dueFull(t, "literal", t.literal());
         sentence("where both could be answered, BAD is");
         due("mark of no cell", t.mark(MOST_CELLS, 1), BAD);
         due("mark 5", t.mark(0, 5), BAD);
@@ -668,11 +710,16 @@ public final class CallTests extends Checks {
         String[] texts = {"", "[nai]", "[empty]", "[entire]", "[,]", "[0.1]", "[-1/3,1/3]", "[1e999]", "[-1e999,-1e-999]", "[0x1p-9999]", "[1,]", "[,1]",
             "3.5?", "3??", "3??u", "3??d", "-3?1e999", "1?1e-999", "[0]", "[0x1.fffffffffffffp1023,0x1p1024]"};
         for (String text : texts) stray(t -> read(t, text), text);
+        stray(t -> {
+            for (String text : texts) t.two(2, read(t, text), 0);
+            for (int c = 0; c < texts.length; c++) t.one(3, c);
+        }, "all texts");
     }
 
     public static void main(String[] args) {
         refusedCalls();
         firstRefused();
+        callsThatMakeAndAsk();
         fullCells();
         newObject();
         feedAndItsLimit();

@@ -161,6 +161,8 @@ public final class OperationTests extends Checks {
         dueOne(5, box(TINY), box(1), COM);
         dueOne(5, box(0), box(0), DAC);
         dueOne(5, box(-TINY), box(-1), COM);
+        dueOne(5, box(1), box(1), COM);
+        dueOne(5, box(-2, -1), box(-1), COM);
         dueOne(5, box(0, TINY), box(0, 1), DEF);
         dueOne(5, box(-TINY, 0), box(-1, 0), DEF);
         dueOne(5, box(-TINY, TINY), box(-1, 1), DEF);
@@ -260,11 +262,37 @@ public final class OperationTests extends Checks {
         dueOne(9, ALL, ALL, DEF);
     }
 
+    private static int stepMark(int operation, double x) {
+        boolean whole = x == Math.rint(x);
+        boolean jumps = operation == 9 ? Math.abs(x % 1) == 0.5 : whole && (operation != 8 || x != 0);
+        return jumps ? DAC : COM;
+    }
+
+    private static void stepsAtEachScale() {
+        sentence("ONE 6 to 9: integers at each scale of the floats");
+        for (int scale = -1074; scale < 1024; scale++) {
+            double power = Math.scalb(1.0, scale);
+            for (double size : new double[] {power, up(power), down(power), 1.5 * power, 1.75 * power}) {
+                for (double x : new double[] {size, -size}) {
+                    double cut = x < 0 ? Math.ceil(x) : Math.floor(x);
+                    dueOne(6, box(x), box(Math.ceil(x)), stepMark(6, x));
+                    dueOne(7, box(x), box(Math.floor(x)), stepMark(7, x));
+                    dueOne(8, box(x), box(cut), stepMark(8, x));
+                    dueOne(9, box(x), box(Math.rint(x)), stepMark(9, x));
+                }
+            }
+        }
+    }
+
     private static void sumAndDifference() {
         sentence("TWO 0, 1: x + y, x - y");
         dueTwo(0, box(-FAR, 1), box(1, FAR), ALL, DAC);
         dueTwo(0, box(1, FAR), box(2, 3), box(3, FAR), DAC);
         dueTwo(0, box(BIG, FAR), box(BIG), box(BIG, FAR), DAC);
+        dueTwo(0, box(1, FAR), box(-BIG), box(-BIG, FAR), DAC);
+        dueTwo(0, box(-BIG), box(1, FAR), box(-BIG, FAR), DAC);
+        dueTwo(0, box(0), box(-FAR, TINY), box(-FAR, TINY), DAC);
+        dueTwo(1, box(BIG), box(1, FAR), box(-FAR, BIG), DAC);
         dueTwo(0, box(-BIG, BIG), box(-BIG, BIG), ALL, DAC);
         dueTwo(1, box(1, FAR), box(1, FAR), ALL, DAC);
         dueTwo(1, box(-BIG, BIG), box(-BIG, BIG), ALL, DAC);
@@ -281,6 +309,8 @@ public final class OperationTests extends Checks {
         dueTwo(2, box(0, FAR), box(0, FAR), box(0, FAR), DAC);
         dueTwo(2, box(0, FAR), box(-FAR, 0), box(-FAR, 0), DAC);
         dueTwo(2, box(-FAR, 0), box(-FAR, 0), box(0, FAR), DAC);
+        dueTwo(2, box(TINY), box(1, FAR), box(TINY, FAR), DAC);
+        dueTwo(2, box(1, FAR), box(-TINY), box(-FAR, -TINY), DAC);
         dueTwo(2, box(-2, 3), box(-5, 4), box(-15, 12), COM);
         dueTwo(2, box(-4, 1), box(-5, 2), box(-8, 20), COM);
         dueTwo(2, box(BIG), box(1), box(BIG), COM);
@@ -312,10 +342,19 @@ public final class OperationTests extends Checks {
         dueTwo(3, box(-FAR, -1), box(-FAR, -1), box(0, FAR), DAC);
         dueTwo(3, box(1, 2), box(TINY, 1), box(1, FAR), DAC);
         dueTwo(3, box(1, 2), box(0, FAR), box(0, FAR), TRV);
+        dueTwo(3, box(TINY), box(0, 1), box(TINY, FAR), TRV);
+        dueTwo(3, box(1, FAR), box(BIG), box(0x1p-1024, FAR), DAC);
+        dueTwo(3, box(0x1p1023), box(0.75), box(4.0 / 3 * 0x1p1023, up(4.0 / 3) * 0x1p1023), COM);
+        dueTwo(3, box(BIG), box(down(1)), box(BIG, FAR), DAC);
+        dueTwo(3, box(BIG), box(up(1)), box(down(down(BIG)), down(BIG)), COM);
         dueTwo(3, box(BIG), box(0.5), box(BIG, FAR), DAC);
         dueTwo(3, box(TINY), box(2), box(0, TINY), COM);
         dueTwo(3, box(-TINY), box(2), box(-TINY, 0), COM);
         dueTwo(3, box(TINY), box(TINY), box(1), COM);
+        dueTwo(3, box(-TINY, 1), box(0.25, 2), box(-4 * TINY, 4), COM);
+        dueTwo(3, box(-1, TINY), box(0.25, 2), box(-4, 4 * TINY), COM);
+        dueTwo(3, box(-TINY, 1), box(-2, -0.25), box(-4, 4 * TINY), COM);
+        dueTwo(3, box(-2, -TINY), box(0.5, 1), box(-4, -TINY), COM);
         dueTwo(3, box(BIG), box(BIG), box(1), COM);
         dueTwo(3, box(TINY), box(BIG, FAR), box(0, TINY), DAC);
     }
@@ -334,6 +373,8 @@ public final class OperationTests extends Checks {
         sentence("THREE: x * y + z");
         dueFused(box(0), ALL, box(1, 2), box(1, 2), DAC);
         dueFused(box(1, FAR), box(1), box(-FAR, 0), ALL, DAC);
+        dueFused(box(TINY), box(1, FAR), box(-BIG), box(-BIG, FAR), DAC);
+        dueFused(box(-BIG), box(BIG), box(1, FAR), box(-FAR, FAR), DAC);
         dueFused(box(BIG), box(2), box(-BIG), box(BIG), COM);
         dueFused(box(BIG), box(2), box(down(-BIG / 2)), box(BIG, FAR), DAC);
         dueFused(box(TINY), box(TINY), box(1), box(1, up(1)), COM);
@@ -514,6 +555,38 @@ public final class OperationTests extends Checks {
         dueParts(box(1), box(-TINY, 0), box(-FAR, -BIG), NONE);
     }
 
+    private static String told(Tape t, int cell) {
+        return Long.toHexString(t.low(cell)) + " " + Long.toHexString(t.high(cell)) + " " + t.markOf(cell);
+    }
+
+    private static int applyOrRead(Tape t, int which) {
+        String[] texts = {"[0.1,1/3]_def", "[1e999]", "3??u", "[empty]", "[1,2"};
+        return which < 26 ? apply(t, which, 0, 1, 2) : read(t, texts[which - 26]);
+    }
+
+    private static Tape operands() {
+        Tape t = new Tape();
+        cell(t, 0.1, 3);
+        cell(t, 0.7, FAR);
+        cell(t, -5, 0.3);
+        return t;
+    }
+
+    private static void apartFromOneAnother() {
+        sentence("OPERATIONS make a new cell from others, whatever was reckoned before");
+        for (int first = 0; first < 31; first++) {
+            for (int second = 0; second < 31; second++) {
+                Tape fresh = operands(), used = operands();
+                String want = told(fresh, applyOrRead(fresh, second)), before = told(used, applyOrRead(used, first));
+                used.number(0, 1);
+                used.write(0, 7);
+                due(first + ", " + second, told(used, applyOrRead(used, second)), want);
+                due(first + " stays", told(used, 3), before);
+                due("astray()", used.astray(), 0);
+            }
+        }
+    }
+
     public static void main(String[] args) {
         illOperands();
         emptyOperands();
@@ -529,6 +602,7 @@ public final class OperationTests extends Checks {
         greatestIntegerBelow();
         withoutWhatIsBehindThePoint();
         nearestInteger();
+        stepsAtEachScale();
         sumAndDifference();
         product();
         quotient();
@@ -538,6 +612,7 @@ public final class OperationTests extends Checks {
         setOperations();
         cancel();
         parts();
+        apartFromOneAnother();
         finish();
     }
 }

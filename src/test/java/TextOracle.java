@@ -59,7 +59,7 @@ public final class TextOracle {
         if (!got.equals(want)) fail(what, got, want);
     }
 
-    private static int read(IntervalTape t, String text) {
+    private static int read(Tape t, String text) {
         for (int at = 0; at < text.length(); at += 20) {
             int[] four = new int[5];
             for (int i = 0; i < 20; i++) {
@@ -72,7 +72,7 @@ public final class TextOracle {
         return t.literal();
     }
 
-    private static String written(IntervalTape t, int cell, int digits) {
+    private static String written(Tape t, int cell, int digits) {
         int n = t.write(cell, digits);
         StringBuilder b = new StringBuilder();
         for (int i = 0; i < n; i++) b.append((char) (t.word(i / 8) >>> (8 * (i % 8)) & 255));
@@ -171,7 +171,7 @@ public final class TextOracle {
         int given = below(9);
         String text = blanks() + mixed(bare + (given > 4 ? "" : "_" + (given == 0 ? "ill" : MARKS[given]))) + blanks();
         if (text.length() > 400) return;
-        IntervalTape t = new IntervalTape();
+        Tape t = new Tape();
         int c = read(t, text);
         boolean ill = given == 0 || !told && given == 4 || low != null && high != null && low.order(high) > 0;
         seen++;
@@ -257,7 +257,7 @@ public final class TextOracle {
         int kind = below(12), n = below(19), mark = 1 + below(4);
         if (kind == 0) from = Double.NEGATIVE_INFINITY;
         if (kind == 1) to = Double.POSITIVE_INFINITY;
-        IntervalTape t = new IntervalTape();
+        Tape t = new Tape();
         int c = t.mark(t.cell(Double.doubleToLongBits(from), Double.doubleToLongBits(to)), mark);
         String low = n == 0 ? hexEnd(from) : decimalEnd(from, n, RoundingMode.FLOOR);
         String high = n == 0 ? hexEnd(to) : decimalEnd(to, n, RoundingMode.CEILING);
@@ -268,7 +268,7 @@ public final class TextOracle {
         dueNumbers(t, c, from, to);
     }
 
-    private static void dueReadBack(IntervalTape t, String text, double from, double to, int n) {
+    private static void dueReadBack(Tape t, String text, double from, double to, int n) {
         int c = read(t, text);
         double low = Double.longBitsToDouble(t.low(c)), high = Double.longBitsToDouble(t.high(c));
         boolean around = low <= from && to <= high && t.markOf(c) > 0;
@@ -282,7 +282,7 @@ public final class TextOracle {
         return new BigDecimal(near).compareTo(d) < 0 ? Math.nextUp(near) : near;
     }
 
-    private static void dueNumbers(IntervalTape t, int c, double from, double to) {
+    private static void dueNumbers(Tape t, int c, double from, double to) {
         boolean low = !Double.isInfinite(from), high = !Double.isInfinite(to), bounded = low && high;
         double inf = Double.POSITIVE_INFINITY;
         double middle = low ? high ? 0 : Double.MAX_VALUE : high ? -Double.MAX_VALUE : 0, radius = inf, width = inf;

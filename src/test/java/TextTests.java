@@ -361,6 +361,9 @@ public final class TextTests extends Checks {
         dueWritten(u, cell(u, 0.1, 0.1), 0, "[0x1.999999999999ap-4]_com");
         dueWritten(u, cell(u, -1, 1), 1, "[-1e0,1e0]_com");
         dueWritten(u, cell(u, 1, 11), 1, "[1e0,2e1]_com");
+        dueWritten(u, cell(u, 10, 1e10), 1, "[1e1,1e10]_com");
+        dueWritten(u, cell(u, -1e10, -10), 1, "[-1e10,-1e1]_com");
+        dueWritten(u, cell(u, 1024, 0x1p100), 0, "[0x1.0000000000000p10,0x1.0000000000000p100]_com");
         dueWritten(u, cell(u, 1, 2), 0, "[0x1.0000000000000p0,0x1.0000000000000p1]_com");
         dueWritten(u, cell(u, 0, 1), 1, "[0,1e0]_com");
         dueWritten(u, cell(u, up(1), up(1)), 0, "[0x1.0000000000001p0]_com");
