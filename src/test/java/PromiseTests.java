@@ -6,20 +6,44 @@ import java.util.List;
 
 /** For each promise of the document: ordinary inputs, the edges that it names, and wrong inputs. */
 public final class PromiseTests extends Checks {
+    private static final String FACE = """
+        public int astray()
+        public int cell(long,long)
+        public int clear()
+        public int compare(int,int,int)
+        public int count()
+        public int end(int)
+        public int feed(int,int,int,int,int)
+        public int fused(int,int,int)
+        public int has(int,long)
+        public int is(int,int)
+        public int literal()
+        public int mark(int,int)
+        public int markOf(int)
+        public int one(int,int)
+        public int power(int,int)
+        public int two(int,int,int)
+        public int write(int,int)
+        public long high(int)
+        public long low(int)
+        public long number(int,int)
+        public long word(int)
+        public static final int BAD
+        public static final int FULL""";
+
     private static void constantsAndFace() {
         sentence("face");
         due("BAD", IntervalTape.BAD, BAD);
         due("FULL", IntervalTape.FULL, FULL);
-        List<String> names = new ArrayList<>();
+        List<String> members = new ArrayList<>();
         for (Method m : IntervalTape.class.getDeclaredMethods()) {
-            if (!Modifier.isPrivate(m.getModifiers()) && !m.isSynthetic()) names.add(m.getName());
+            if (!Modifier.isPrivate(m.getModifiers()) && !m.isSynthetic()) members.add(m.toString());
         }
         for (Field f : IntervalTape.class.getDeclaredFields()) {
-            if (!Modifier.isPrivate(f.getModifiers()) && !f.isSynthetic()) names.add(f.getName());
+            if (!Modifier.isPrivate(f.getModifiers()) && !f.isSynthetic()) members.add(f.toString());
         }
-        names.sort(null);
-        due("names", names.toString(), "[BAD, FULL, astray, cell, clear, compare, count, end, feed, fused, has, high, is, "
-            + "literal, low, mark, markOf, number, one, power, two, word, write]");
+        members.sort(null);
+        due("members", String.join("\n", members).replace("IntervalTape.", ""), FACE);
         due("constructors", IntervalTape.class.getConstructors().length, 1);
         due("final", Modifier.isFinal(IntervalTape.class.getModifiers()) ? 1 : 0, 1);
     }
